@@ -140,10 +140,7 @@ public final class TickKeeper {
 
     public int mask(int job, int field, long bits) {
         Job masked = jobAt(job);
-        if (masked == null || field < 0 || field >= MASKS) {
-            return BAD;
-        }
-        return masked.rule.setMask(field, bits);
+        return masked == null ? BAD : masked.rule.setMask(field, bits);
     }
 
     public int nth(int job, int weekday, int n) {
@@ -847,6 +844,7 @@ public final class TickKeeper {
             this.zone = zone;
         }
 
+        /** How many bits the MASK has then; BAD. */
         int setMask(int field, long bits) {
             if (field < 0 || field >= MASKS) {
                 return BAD;

@@ -363,6 +363,14 @@ public final class PromiseTest {
         y.mask(0, 3, 1L << 1 | 1L << 3);
         y.holiday(0, 60);
         due("those of other months are not", y.due(0, 1), (366 + 59) * 1440);
+        TickKeeper z = withJobs(1);
+        z.mask(0, 0, 1L);
+        z.mask(0, 1, 1L);
+        z.mask(0, 3, 1L << 2);
+        z.nth(0, 0, 6);
+        z.onHoliday(0, 2);
+        z.holiday(0, 58);
+        due("one of the nths moves, too", z.due(0, 0), 59 * 1440);
     }
 
     private static void catchUp() {
