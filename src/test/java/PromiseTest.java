@@ -16,30 +16,6 @@ public final class PromiseTest {
         }
     }
 
-    /** One ZONE and so many JOBS that are never DUE. */
-    private static TickKeeper withJobs(int jobs) {
-        TickKeeper x = new TickKeeper();
-        x.zone();
-        for (int j = 0; j < jobs; j++) x.job(0);
-        return x;
-    }
-
-    private static void daily(TickKeeper x, int job, long minutes, long hours) {
-        x.mask(job, 0, minutes);
-        x.mask(job, 1, hours);
-        for (int field = 2; field < 5; field++) x.mask(job, field, -1L);
-    }
-
-    /** JOBS that are DUE at each full hour, any lateness up to a day allowed. */
-    private static TickKeeper hourly(int jobs) {
-        TickKeeper x = withJobs(jobs);
-        for (int j = 0; j < jobs; j++) {
-            daily(x, j, 1L, -1L);
-            x.catchUp(j, 0, 1440);
-        }
-        return x;
-    }
-
     private static void row(TickKeeper x, int i, int... numbers) {
         for (int what = 0; what < 8; what++) due("letter(" + i + ", " + what + ")", x.letter(i, what), numbers[what]);
     }
@@ -220,12 +196,12 @@ public final class PromiseTest {
         y.zone();
         y.shift(1, 0, 60);
         y.job(1);
-        daily(y, 0, 1L, 1L);
+        Bounds.daily(y, 0, 1L, 1L);
         due("of its own zone", y.due(0, 0), 1380);
     }
 
     private static void mask() {
-        TickKeeper x = withJobs(1);
+        TickKeeper x = Bounds.jobs(1);
         int[] sizes = {60, 24, 31, 12, 7};
         for (int field = 0; field < 5; field++) {
             due("all of " + field, x.mask(0, field, -1L), sizes[field]);
@@ -247,8 +223,8 @@ public final class PromiseTest {
         due("a mask is put anew", x.mask(0, 0, 1L), 1);
         due("23:00 now", x.due(0, 0), 30 * 1440 + 1380);
         for (int field = 0; field < 5; field++) {
-            TickKeeper y = withJobs(1);
-            daily(y, 0, -1L, -1L);
+            TickKeeper y = Bounds.jobs(1);
+            Bounds.daily(y, 0, -1L, -1L);
             due("all minutes", y.due(0, 77), 77);
             y.mask(0, field, 0L);
             due("none, without " + field, y.due(0, 77), NONE);
@@ -261,7 +237,7 @@ public final class PromiseTest {
     }
 
     private static void nth() {
-        TickKeeper x = withJobs(2);
+        TickKeeper x = Bounds.jobs(2);
         x.mask(0, 0, 1L);
         x.mask(0, 1, 1L);
         x.mask(0, 3, 1L << 2);
@@ -288,8 +264,8 @@ public final class PromiseTest {
     }
 
     private static void except() {
-        TickKeeper x = withJobs(1);
-        daily(x, 0, 1L, -1L);
+        TickKeeper x = Bounds.jobs(1);
+        Bounds.daily(x, 0, 1L, -1L);
         due("0", x.except(0, 0), 1);
         due("due", x.due(0, 0), 60);
         due("the same again", x.except(0, 0), 2);
@@ -297,30 +273,30 @@ public final class PromiseTest {
         due("due behind all", x.due(0, 0), 300);
         due("a seventh", x.except(0, 300), FULL);
         due("one that is there, when full", x.except(0, 0), FULL);
-        TickKeeper all = withJobs(1);
-        daily(all, 0, 1L, -1L);
+        TickKeeper all = Bounds.jobs(1);
+        Bounds.daily(all, 0, 1L, -1L);
         for (int n = 0; n < 6; n++) all.except(0, n * 60);
         due("behind six", all.due(0, 0), 360);
         due("minute -1", x.except(0, -1), BAD);
         due("minute too late", x.except(0, LAST + 1), BAD);
         due("job 1", x.except(1, 0), BAD);
         due("job -1", x.except(-1, 0), BAD);
-        TickKeeper y = withJobs(1);
+        TickKeeper y = Bounds.jobs(1);
         due("last", y.except(0, LAST), 1);
         y.except(0, 0);
         y.runNow(0);
         due("an extra is due in spite of it", y.due(0, 0), 0);
-        TickKeeper z = withJobs(1);
+        TickKeeper z = Bounds.jobs(1);
         z.shift(0, 600, 60);
-        daily(z, 0, -1L, 1L << 10);
+        Bounds.daily(z, 0, -1L, 1L << 10);
         due("a whole hour falls on one minute", z.due(0, 0), 600);
         due("the exception is a minute", z.except(0, 600), 1);
         due("all of the hour is excepted", z.due(0, 0), 1440 + 540);
     }
 
     private static void onHoliday() {
-        TickKeeper x = withJobs(1);
-        daily(x, 0, 1L, 1L);
+        TickKeeper x = Bounds.jobs(1);
+        Bounds.daily(x, 0, 1L, 1L);
         x.mask(0, 2, 1L << 7);
         x.mask(0, 3, 1L << 1);
         due("a Friday", x.due(0, 0), 6 * 1440);
@@ -339,8 +315,8 @@ public final class PromiseTest {
         due("job 1", x.onHoliday(1, 0), BAD);
         due("job -1", x.onHoliday(-1, 0), BAD);
         due("was 2", x.onHoliday(0, 0), 2);
-        TickKeeper y = withJobs(1);
-        daily(y, 0, 1L, 1L);
+        TickKeeper y = Bounds.jobs(1);
+        Bounds.daily(y, 0, 1L, 1L);
         y.mask(0, 2, 1L << 8);
         y.mask(0, 3, 1L << 1);
         y.onHoliday(0, 2);
@@ -363,7 +339,7 @@ public final class PromiseTest {
         y.mask(0, 3, 1L << 1 | 1L << 3);
         y.holiday(0, 60);
         due("those of other months are not", y.due(0, 1), (366 + 59) * 1440);
-        TickKeeper z = withJobs(1);
+        TickKeeper z = Bounds.jobs(1);
         z.mask(0, 0, 1L);
         z.mask(0, 1, 1L);
         z.mask(0, 3, 1L << 2);
@@ -374,7 +350,7 @@ public final class PromiseTest {
     }
 
     private static void catchUp() {
-        TickKeeper x = hourly(1);
+        TickKeeper x = Bounds.hourly(1);
         due("mode 0", x.catchUp(0, 0, 0), 1);
         due("mode 2, 1440", x.catchUp(0, 2, 1440), 1);
         due("mode 3", x.catchUp(0, 3, 0), BAD);
@@ -390,7 +366,7 @@ public final class PromiseTest {
             {1, 9, 130, NONE, 1, 130}, {1, 1440, 59, 0, 0, 0}, {2, 1440, 120, 120, 1, 120}, {2, 1440, 130, NONE, 1, 130},
             {2, 0, 0, 0, 0, 0}, {1, 1440, 5000, 4980, 1, 4980}};
         for (int[] c : cases) {
-            TickKeeper y = hourly(1);
+            TickKeeper y = Bounds.hourly(1);
             String name = "mode " + c[0] + ", lateness " + c[1] + ", now " + c[2];
             y.catchUp(0, c[0], c[1]);
             y.now(c[2]);
@@ -402,8 +378,8 @@ public final class PromiseTest {
             due(name + ": up to", y.register(0, 0, 2), c[5]);
             due(name + ": guard", y.register(2, 0, 3), c[3] == NONE ? 0 : 1);
         }
-        TickKeeper fresh = withJobs(1);
-        daily(fresh, 0, 1L, -1L);
+        TickKeeper fresh = Bounds.jobs(1);
+        Bounds.daily(fresh, 0, 1L, -1L);
         fresh.now(61);
         fresh.wake(0);
         fresh.flow(50);
@@ -411,7 +387,7 @@ public final class PromiseTest {
     }
 
     private static void after() {
-        TickKeeper x = withJobs(6);
+        TickKeeper x = Bounds.jobs(6);
         due("itself", x.after(0, 0), STATE);
         due("0 after 1", x.after(0, 1), 1);
         due("again", x.after(0, 1), STATE);
@@ -431,7 +407,7 @@ public final class PromiseTest {
     }
 
     private static void pause() {
-        TickKeeper x = hourly(1);
+        TickKeeper x = Bounds.hourly(1);
         due("on", x.pause(0, true), 0);
         due("on again", x.pause(0, true), 1);
         due("not woken", x.wake(0), 0);
@@ -450,8 +426,8 @@ public final class PromiseTest {
     }
 
     private static void dueMinutes() {
-        TickKeeper x = withJobs(2);
-        daily(x, 0, 1L << 59, 1L << 23);
+        TickKeeper x = Bounds.jobs(2);
+        Bounds.daily(x, 0, 1L << 59, 1L << 23);
         due("from 0", x.due(0, 0), 1439);
         due("from it", x.due(0, 1439), 1439);
         due("behind it", x.due(0, 1440), 2879);
@@ -461,13 +437,13 @@ public final class PromiseTest {
         due("from too late", x.due(0, LAST + 1), BAD);
         due("job 2", x.due(2, 0), BAD);
         due("job -1", x.due(-1, 0), BAD);
-        daily(x, 0, 1L, 1L);
+        Bounds.daily(x, 0, 1L, 1L);
         due("none behind the last", x.due(0, LAST), NONE);
         x.mask(0, 2, 1L << 30);
         x.mask(0, 3, 1L << 2);
         due("February 30", x.due(0, 0), NONE);
         x.shift(0, 0, -60);
-        daily(x, 1, 1L, -1L);
+        Bounds.daily(x, 1, 1L, -1L);
         due("December 31, 1999", x.due(1, 0), 0);
         x.mask(1, 3, 1L << 12);
         due("until 0:59", x.due(1, 1), (335 * 1440) + 60);
@@ -481,8 +457,8 @@ public final class PromiseTest {
     }
 
     private static void between() {
-        TickKeeper x = withJobs(1);
-        daily(x, 0, -1L, 1L);
+        TickKeeper x = Bounds.jobs(1);
+        Bounds.daily(x, 0, -1L, 1L);
         due("0", x.between(0, 10, 20, 0), 10);
         due("10", x.between(0, 10, 20, 10), 20);
         due("11", x.between(0, 10, 20, 11), NONE);
@@ -505,7 +481,7 @@ public final class PromiseTest {
     }
 
     private static void runNow() {
-        TickKeeper x = withJobs(1);
+        TickKeeper x = Bounds.jobs(1);
         due("job 1", x.runNow(1), BAD);
         due("job -1", x.runNow(-1), BAD);
         x.now(7);
@@ -525,7 +501,7 @@ public final class PromiseTest {
         }
         x.now(100);
         due("a ninth", x.runNow(0), FULL);
-        TickKeeper y = hourly(1);
+        TickKeeper y = Bounds.hourly(1);
         y.now(30);
         due("minute 0 is due", y.runNow(0), STATE);
         y.wake(0);
@@ -536,7 +512,7 @@ public final class PromiseTest {
         due("due", y.due(0, 1), 30);
         y.flow(50);
         due("one that is due up to now", y.runNow(0), STATE);
-        TickKeeper z = hourly(1);
+        TickKeeper z = Bounds.hourly(1);
         z.except(0, 0);
         due("none is due yet", z.runNow(0), 1);
     }
@@ -555,7 +531,7 @@ public final class PromiseTest {
     }
 
     private static void wake() {
-        TickKeeper x = hourly(3);
+        TickKeeper x = Bounds.hourly(3);
         due("scheduler 3", x.wake(3), BAD);
         due("scheduler -1", x.wake(-1), BAD);
         x.pause(1, true);
@@ -571,7 +547,7 @@ public final class PromiseTest {
         due("runs", x.count(4), 2);
         x.crash(1);
         due("down", x.wake(1), STATE);
-        TickKeeper y = hourly(1);
+        TickKeeper y = Bounds.hourly(1);
         y.wake(2);
         y.flow(50);
         due("ballot 5", y.register(2, 0, 0), 5);
@@ -584,7 +560,7 @@ public final class PromiseTest {
         y.flow(50);
         due("the higher one did it", y.effect(0, 1, 0), 60);
         due("once", y.effects(0), 2);
-        TickKeeper z = hourly(1);
+        TickKeeper z = Bounds.hourly(1);
         z.now(30);
         z.wake(0);
         z.except(0, 0);
@@ -595,7 +571,7 @@ public final class PromiseTest {
     }
 
     private static void deliver() {
-        TickKeeper x = hourly(1);
+        TickKeeper x = Bounds.hourly(1);
         due("none", x.deliver(0), BAD);
         x.wake(0);
         due("-1", x.deliver(-1), BAD);
@@ -626,7 +602,7 @@ public final class PromiseTest {
     }
 
     private static void refusals() {
-        TickKeeper x = hourly(1);
+        TickKeeper x = Bounds.hourly(1);
         x.wake(2);
         x.deliver(0);
         x.lose(0);
@@ -651,7 +627,7 @@ public final class PromiseTest {
         due("above its promised one", x.register(1, 0, 4), 10);
 
         for (int crashes = 0; crashes < 2; crashes++) {
-            TickKeeper y = hourly(1);
+            TickKeeper y = Bounds.hourly(1);
             y.wake(2);
             y.wake(2);
             y.deliver(2);
@@ -668,7 +644,7 @@ public final class PromiseTest {
             due("a crash forgets refusals", y.register(1, 0, 4), crashes == 1 ? 7 : 10);
         }
 
-        TickKeeper z = hourly(1);
+        TickKeeper z = Bounds.hourly(1);
         z.wake(0);
         z.deliver(0);
         z.deliver(1);
@@ -684,7 +660,7 @@ public final class PromiseTest {
     }
 
     private static void twinsAndReading() {
-        TickKeeper x = hourly(1);
+        TickKeeper x = Bounds.hourly(1);
         x.wake(0);
         x.twin(0);
         x.deliver(0);
@@ -695,7 +671,7 @@ public final class PromiseTest {
         x.deliver(1);
         due("so the promise does nothing", x.count(3), 1);
 
-        TickKeeper y = hourly(1);
+        TickKeeper y = Bounds.hourly(1);
         y.now(60);
         y.wake(0);
         y.deliver(0);
@@ -718,7 +694,7 @@ public final class PromiseTest {
         y.wake(0);
         due("nothing is due of its own register", y.register(0, 0, 2), 60);
 
-        TickKeeper z = hourly(1);
+        TickKeeper z = Bounds.hourly(1);
         z.now(60);
         z.crash(2);
         z.wake(0);
@@ -738,7 +714,7 @@ public final class PromiseTest {
         due("the answer of the other one", z.deliver(6), WRITTEN);
         due("its own promise is raised, yet what it writes is done", z.letter(6, 0), EFFECT);
 
-        TickKeeper v = hourly(1);
+        TickKeeper v = Bounds.hourly(1);
         v.now(60);
         v.wake(0);
         v.deliver(0);
@@ -754,7 +730,7 @@ public final class PromiseTest {
         v.flow(50);
         due("so its minute is not done", v.effect(0, 0, 0), 60);
 
-        TickKeeper w = hourly(1);
+        TickKeeper w = Bounds.hourly(1);
         w.wake(0);
         w.deliver(0);
         w.wake(1);
@@ -765,7 +741,7 @@ public final class PromiseTest {
     }
 
     private static void flow() {
-        TickKeeper x = hourly(1);
+        TickKeeper x = Bounds.hourly(1);
         due("0", x.flow(0), BAD);
         due("51", x.flow(51), BAD);
         due("-1", x.flow(-1), BAD);
@@ -776,14 +752,14 @@ public final class PromiseTest {
         due("two", x.flow(2), 2);
         due("also those that come meanwhile", x.flow(50), 6);
         due("all done", x.effects(0), 1);
-        TickKeeper y = hourly(12);
+        TickKeeper y = Bounds.hourly(12);
         y.wake(0);
         due("50 at most", y.flow(50), 50);
         due("the rest waits", y.count(3) > 0 ? 1 : 0, 1);
     }
 
     private static void lose() {
-        TickKeeper x = hourly(1);
+        TickKeeper x = Bounds.hourly(1);
         due("none", x.lose(0), BAD);
         x.wake(0);
         due("-1", x.lose(-1), BAD);
@@ -798,7 +774,7 @@ public final class PromiseTest {
     }
 
     private static void twin() {
-        TickKeeper x = hourly(12);
+        TickKeeper x = Bounds.hourly(12);
         due("none", x.twin(0), BAD);
         x.wake(0);
         due("24 letters", x.count(3), 24);
@@ -818,7 +794,7 @@ public final class PromiseTest {
         due("an answer has the room of what it answers", x.deliver(0), ASK);
         row(x, 59, PROMISE, 1, 0, 0, 3, 0, -1, 0);
         due("24 still", x.count(5), 24);
-        TickKeeper y = hourly(1);
+        TickKeeper y = Bounds.hourly(1);
         y.wake(0);
         y.flow(8);
         due("effect", y.letter(y.count(3) - 1, 0), EFFECT);
@@ -829,7 +805,7 @@ public final class PromiseTest {
     }
 
     private static void letter() {
-        TickKeeper x = hourly(2);
+        TickKeeper x = Bounds.hourly(2);
         due("none", x.letter(0, 0), BAD);
         x.now(60);
         x.wake(2);
@@ -863,7 +839,7 @@ public final class PromiseTest {
     }
 
     private static void crash() {
-        TickKeeper x = hourly(3);
+        TickKeeper x = Bounds.hourly(3);
         due("scheduler 3", x.crash(3), BAD);
         due("scheduler -1", x.crash(-1), BAD);
         x.wake(0);
@@ -879,7 +855,7 @@ public final class PromiseTest {
         due("no want of room", x.count(5), 0);
         due("no run", x.crash(1), 0);
         registerIs(x, 1, 1, 4, 4, 0, 1, 0, 0, NONE);
-        TickKeeper y = hourly(1);
+        TickKeeper y = Bounds.hourly(1);
         y.wake(0);
         y.flow(2);
         y.crash(0);
@@ -890,7 +866,7 @@ public final class PromiseTest {
     }
 
     private static void restart() {
-        TickKeeper x = hourly(1);
+        TickKeeper x = Bounds.hourly(1);
         due("up", x.restart(1), STATE);
         due("scheduler 3", x.restart(3), BAD);
         due("scheduler -1", x.restart(-1), BAD);
@@ -906,7 +882,7 @@ public final class PromiseTest {
     }
 
     private static void desk() {
-        TickKeeper x = hourly(2);
+        TickKeeper x = Bounds.hourly(2);
         due("desk 2", x.desk(2, true), BAD);
         due("desk -1", x.desk(-1, true), BAD);
         due("down", x.desk(1, true), 0);
@@ -926,7 +902,7 @@ public final class PromiseTest {
     }
 
     private static void register() {
-        TickKeeper x = hourly(1);
+        TickKeeper x = Bounds.hourly(1);
         due("scheduler 3", x.register(3, 0, 0), BAD);
         due("scheduler -1", x.register(-1, 0, 0), BAD);
         due("job 1", x.register(0, 1, 0), BAD);
@@ -950,7 +926,7 @@ public final class PromiseTest {
     }
 
     private static void effects() {
-        TickKeeper x = hourly(2);
+        TickKeeper x = Bounds.hourly(2);
         due("job 2", x.effects(2), BAD);
         due("job -1", x.effects(-1), BAD);
         due("none", x.effects(0), 0);
@@ -965,7 +941,7 @@ public final class PromiseTest {
     }
 
     private static void effect() {
-        TickKeeper x = hourly(1);
+        TickKeeper x = Bounds.hourly(1);
         due("none such", x.effect(0, 0, 0), NONE);
         for (int n = 0; n < 20; n++) {
             x.now(60 * n);
@@ -987,7 +963,7 @@ public final class PromiseTest {
     }
 
     private static void waiting() {
-        TickKeeper x = hourly(4);
+        TickKeeper x = Bounds.hourly(4);
         due("job 4", x.waiting(4), BAD);
         due("job -1", x.waiting(-1), BAD);
         due("at first", x.waiting(3), 0);
@@ -1034,8 +1010,8 @@ public final class PromiseTest {
         x.shift(1, 0, 600);
         x.job(0);
         x.job(1);
-        daily(x, 0, 1L, -1L);
-        daily(x, 1, 1L, 1L << 12);
+        Bounds.daily(x, 0, 1L, -1L);
+        Bounds.daily(x, 1, 1L, 1L << 12);
         x.mask(1, 4, 1L << 6);
         x.catchUp(0, 1, 1440);
         x.after(0, 1);
@@ -1069,13 +1045,13 @@ public final class PromiseTest {
         // The first and the last minute of a LOCAL day, and those beside them.
         int[][] cases = {{1439, 0}, {1440, 1}, {2879, 1}, {2880, 0}};
         for (int[] c : cases) {
-            TickKeeper y = withJobs(2);
+            TickKeeper y = Bounds.jobs(2);
             y.after(1, 0);
-            daily(y, 0, 1L << c[0] % 60, 1L << c[0] / 60 % 24);
+            Bounds.daily(y, 0, 1L << c[0] % 60, 1L << c[0] / 60 % 24);
             y.mask(0, 2, 1L << c[0] / 1440 + 1);
             due("the other's", y.due(0, 0), c[0]);
             y.pause(0, true);
-            daily(y, 1, 1L, -1L);
+            Bounds.daily(y, 1, 1L, -1L);
             y.catchUp(1, 1, 1440);
             y.now(2879);
             y.wake(0);
@@ -1085,11 +1061,11 @@ public final class PromiseTest {
         }
 
         // A LOCAL day that comes back: day 1 begins at 1440, is left at 1500 and comes again at 2160.
-        TickKeeper y = withJobs(2);
+        TickKeeper y = Bounds.jobs(2);
         y.shift(0, 1500, -720);
-        daily(y, 0, 1L << 30, 1L << 20);
+        Bounds.daily(y, 0, 1L << 30, 1L << 20);
         y.mask(0, 2, 1L << 2);
-        daily(y, 1, 1L, 1L << 0);
+        Bounds.daily(y, 1, 1L, 1L << 0);
         y.mask(1, 2, 1L << 2);
         y.after(1, 0);
         y.now(1440);
@@ -1100,7 +1076,7 @@ public final class PromiseTest {
     }
 
     private static void passed() {
-        TickKeeper x = hourly(1);
+        TickKeeper x = Bounds.hourly(1);
         due("job 1", x.passed(1), BAD);
         due("job -1", x.passed(-1), BAD);
         due("at first", x.passed(0), 0);
@@ -1130,7 +1106,7 @@ public final class PromiseTest {
     }
 
     private static void count() {
-        TickKeeper x = hourly(2);
+        TickKeeper x = Bounds.hourly(2);
         due("what 7", x.count(7), BAD);
         due("what -1", x.count(-1), BAD);
         x.now(3);
