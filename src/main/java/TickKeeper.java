@@ -10,7 +10,7 @@ public final class TickKeeper {
     // LOCAL minutes below 0 are proper answers, so BAD would be taken for one of them.
     private static final int BAD_LOCAL = -1000000;
     // Stands for a minute or a day that there is not: later than all, so that Math.min leaves it out.
-    private static final int FAR = Integer.MAX_VALUE;
+    private static final int FAR = 0x7FFFFFFF;
 
     private static final int LAST_MINUTE = 21038399;
     private static final int MINUTES_A_DAY = 1440;

@@ -149,6 +149,45 @@ abstract class Bounds {
         return x.flow(50);
     }
 
+    // ---- ballots
+
+    static int leastAbove(int seen, int scheduler) {
+        int ballot = 3 + scheduler;
+        while (ballot <= seen) ballot += 3;
+        return ballot;
+    }
+
+    static int deliverAsk(TickKeeper x, int ballot, int to) {
+        int letters = x.count(3);
+        for (int i = 0; i < letters; i++) {
+            if (x.letter(i, 0) == ASK && x.letter(i, 4) == ballot && x.letter(i, 2) == to) return x.deliver(i);
+        }
+        return NONE;
+    }
+
+    /** One hourly JOB, of which a SCHEDULER has PROMISED that ballot; no LETTER waits. */
+    static TickKeeper promised(int scheduler, int ballot) {
+        TickKeeper x = hourly(1);
+        makePromise(x, scheduler, ballot);
+        return x;
+    }
+
+    static void makePromise(TickKeeper x, int scheduler, int ballot) {
+        for (int n = 1; n <= ballot / 3; n++) x.wake(ballot % 3);
+        if (ballot % 3 != scheduler) deliverAsk(x, ballot, scheduler);
+        loseAll(x);
+    }
+
+    /** SCHEDULER 1 asked by ballot 4, and 0, which PROMISED that one, has refused it. */
+    static TickKeeper refusedBy(int ballot) {
+        TickKeeper x = promised(0, ballot);
+        x.wake(1);
+        x.deliver(0);
+        x.deliver(1);
+        loseAll(x);
+        return x;
+    }
+
     // ---- rows of answers
 
     void letterIs(TickKeeper x, int i, int... numbers) {

@@ -567,9 +567,9 @@ final class JobBounds extends Bounds {
         badBeside("job", () -> hourlyAt(2, 130), 0, 1, j -> k -> k.catchUp(j, ONLY_NOW, 0));
     }
 
-    /** JOB 0 waits for 1, which waits for 2, and so on. */
+    /** Of twelve JOBS 0 waits for 1, which waits for 2, and so on, as many as told. */
     private static TickKeeper chain(int jobs) {
-        TickKeeper x = jobs(jobs);
+        TickKeeper x = jobs(12);
         for (int j = 0; j + 1 < jobs; j++) x.after(j, j + 1);
         return x;
     }

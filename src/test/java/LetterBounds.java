@@ -319,6 +319,7 @@ final class LetterBounds extends Bounds {
             refused("scheduler " + s, () -> woken(2, 0), STATE, k -> k.restart(scheduler));
             refused("scheduler " + s + ", once more", () -> upAgain(scheduler), STATE, k -> k.restart(scheduler));
         }
+        refused("what it was refused by stays seen", () -> refusedBy(8), STATE, k -> k.restart(1));
     }
 
     private static TickKeeper upAgain(int scheduler) {

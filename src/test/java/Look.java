@@ -9,10 +9,10 @@ record Look(String name, Bounds.Call call) {
 
     /**
      * All that can be seen, in rows for an object each, so that a story, a call and a row stay below 512 calls.
-     * The last two rows go on with the object, as what it holds inside is seen by what it does later.
+     * The last rows go on with the object, as what it holds inside is seen by what it does later.
      */
     static final List<List<Look>> ROWS = List.of(
-            zones(), jobs(), registers(), letters(0, 30), letters(30, LETTERS + 1), changes(), goingOn());
+            zones(), jobs(), registers(), letters(0, 30), letters(30, LETTERS + 1), changes(), waits(), ballots(), goingOn());
 
     private static void add(List<Look> row, String name, Bounds.Call call) {
         row.add(new Look(name, call));
@@ -108,8 +108,6 @@ record Look(String name, Bounds.Call call) {
             add(row, "onHoliday(" + j + ", 1)", x -> x.onHoliday(j, 1));
             add(row, "nth(" + j + ", 6, 6)", x -> x.nth(j, 6, 6));
             add(row, "except(" + j + ", LAST)", x -> x.except(j, LAST));
-            add(row, "after(" + j + ", " + (j + 1) % JOBS + ")", x -> x.after(j, (j + 1) % JOBS));
-            add(row, "after(" + j + ", " + (j + 5) % JOBS + ")", x -> x.after(j, (j + 5) % JOBS));
             add(row, "runNow(" + j + ")", x -> x.runNow(j));
         }
         for (int zone = 0; zone < ZONES; zone++) {
@@ -120,6 +118,36 @@ record Look(String name, Bounds.Call call) {
         add(row, "twin(0)", x -> x.twin(0));
         add(row, "job(0)", x -> x.job(0));
         add(row, "zone()", x -> x.zone());
+        return row;
+    }
+
+    /** JOBS that 0 waits for by some steps may not wait for it; then for how many each one waits. */
+    private static List<Look> waits() {
+        List<Look> row = new ArrayList<>();
+        for (int job = 1; job < JOBS; job++) {
+            int j = job;
+            add(row, "after(" + j + ", 0)", x -> x.after(j, 0));
+        }
+        for (int job = 0; job < JOBS; job++) {
+            int j = job;
+            add(row, "after(" + j + ", " + (j + 1) % JOBS + ")", x -> x.after(j, (j + 1) % JOBS));
+        }
+        return row;
+    }
+
+    /** The ballots tell what each SCHEDULER has SEEN, as long as no LETTER goes. */
+    private static List<Look> ballots() {
+        List<Look> row = new ArrayList<>();
+        for (int job = 0; job < JOBS; job++) {
+            int j = job;
+            add(row, "pause(" + j + ", false)", x -> x.pause(j, false));
+        }
+        add(row, "now, 61 later", x -> x.now(Math.min(LAST, x.count(0) + 61)));
+        for (int scheduler = 0; scheduler < SCHEDULERS; scheduler++) {
+            int s = scheduler;
+            add(row, "wake(" + s + ")", x -> x.wake(s));
+            for (int job = 0; job < JOBS; job++) addRegister(row, s, job, 7);
+        }
         return row;
     }
 

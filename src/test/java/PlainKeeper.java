@@ -12,8 +12,8 @@ import java.util.TreeSet;
 final class PlainKeeper {
     static final int BAD = -1, STATE = -2, FULL = -3, NONE = -9;
     static final int LAST = 21038399;
-    /** What due() and between() answer for "none up to the horizon". */
-    static final int BEYOND = -77;
+    /** What due() and between() answer for "none up to the horizon"; no call of the document answers it. */
+    static final int BEYOND = -2000000;
 
     static final class Zone {
         final TreeMap<Integer, Integer> shifts = new TreeMap<>();

@@ -30,33 +30,6 @@ final class SchedulerBounds extends Bounds {
         orderOfRefusals();
     }
 
-    private static int leastAbove(int seen, int scheduler) {
-        int ballot = 3 + scheduler;
-        while (ballot <= seen) ballot += 3;
-        return ballot;
-    }
-
-    private static int deliverAsk(TickKeeper x, int ballot, int to) {
-        int letters = x.count(3);
-        for (int i = 0; i < letters; i++) {
-            if (x.letter(i, 0) == ASK && x.letter(i, 4) == ballot && x.letter(i, 2) == to) return x.deliver(i);
-        }
-        return NONE;
-    }
-
-    /** One hourly JOB, of which a SCHEDULER has PROMISED that ballot; no LETTER waits. */
-    private static TickKeeper promised(int scheduler, int ballot) {
-        TickKeeper x = hourly(1);
-        makePromise(x, scheduler, ballot);
-        return x;
-    }
-
-    private static void makePromise(TickKeeper x, int scheduler, int ballot) {
-        for (int n = 1; n <= ballot / 3; n++) x.wake(ballot % 3);
-        if (ballot % 3 != scheduler) deliverAsk(x, ballot, scheduler);
-        loseAll(x);
-    }
-
     // ---- registers and ballots
 
     private void registers() {
@@ -111,16 +84,6 @@ final class SchedulerBounds extends Bounds {
         due("each job has its own", jobs.register(0, 1, 4), 6);
     }
 
-    /** SCHEDULER 1 asked by ballot 4, and 0, which PROMISED that one, has refused it. */
-    private static TickKeeper refusedBy(int ballot) {
-        TickKeeper x = promised(0, ballot);
-        x.wake(1);
-        x.deliver(0);
-        x.deliver(1);
-        loseAll(x);
-        return x;
-    }
-
     private void ballotsAfterRefusals() {
         for (int ballot : new int[] {5, 6, 8, 9, 11, 12}) {
             TickKeeper x = refusedBy(ballot);
@@ -142,6 +105,19 @@ final class SchedulerBounds extends Bounds {
         y.restart(1);
         y.wake(1);
         due("what it asked by is its promised one", y.register(1, 0, 4), 7);
+        // 1 has PROMISED 10, 2 has PROMISED 4; 0 is refused by both, in either order.
+        for (int first = 1; first <= 2; first++) {
+            TickKeeper z = hourly(1);
+            for (int n = 0; n < 3; n++) z.wake(1);
+            deliverAsk(z, 4, 2);
+            loseAll(z);
+            z.wake(0);
+            z.flow(2);
+            due("refused", deliver(z, REFUSE, first, 0), REFUSE);
+            due("refused again", deliver(z, REFUSE, 3 - first, 0), REFUSE);
+            z.wake(0);
+            due("above the higher one", z.register(0, 0, 4), 12);
+        }
     }
 
     // ---- the letters
@@ -163,12 +139,33 @@ final class SchedulerBounds extends Bounds {
         deliver(x, ASK, 0, 2);
         deliver(x, PROMISE, 2, 0);
         registerIs(x, 0, 0, 6, 6, 60, 2, 6, 2, 60);
+        firstAnswerIsOld();
         TickKeeper alone = woken(1, 0);
         due("it needs another one's", alone.register(0, 0, 5), 1);
         alone.deliver(0);
         due("asked, not answered", alone.register(0, 0, 5), 1);
         alone.deliver(1);
         due("one answer more is enough", alone.register(0, 0, 5), 2);
+    }
+
+    /** The RUN's answer is of when it began, also when its REGISTER has accepted another VALUE meanwhile. */
+    private void firstAnswerIsOld() {
+        TickKeeper x = hourlyAt(2, DAY);
+        x.pause(0, true);
+        x.mask(0, 2, 1L << 1);
+        x.catchUp(1, NEWEST, DAY);
+        x.wake(0);
+        deliver(x, ASK, 0, 2);
+        x.wake(1);
+        deliver(x, ASK, 1, 0);
+        deliver(x, PROMISE, 0, 1);
+        deliver(x, WRITE, 1, 0);
+        registerIs(x, 0, 1, 4, 4, DAY, 1, 3, 1, NONE);
+        x.catchUp(1, ALL, DAY);
+        x.after(1, 0);
+        due("the answer to the old run", deliver(x, PROMISE, 2, 0), PROMISE);
+        due("it found minute 0, whose day has one that is not done", x.waiting(1), 1);
+        registerIs(x, 0, 1, 4, 4, DAY, 1, 0, 0, NONE);
     }
 
     private void ask() {
@@ -543,6 +540,18 @@ final class SchedulerBounds extends Bounds {
             x.now(c[0]);
             wakeAndFlow(x, 0);
             due("a day that comes again, claimed is " + c[0], x.waiting(1), c[1]);
+        }
+        // An EXTRA at 1600 is of day 0, which came again, and lies amid day 1.
+        int[][] amid = {{1600, 1}, {2159, 1}, {2160, 0}, {3599, 0}};
+        for (int[] c : amid) {
+            TickKeeper x = waiterFor(0);
+            x.mask(0, 0, 0L);
+            x.shift(0, 1500, -720);
+            x.now(1600);
+            due("an extra", x.runNow(0), 1);
+            x.now(c[0]);
+            wakeAndFlow(x, 0);
+            due("an extra of a day that came again, claimed is " + c[0], x.waiting(1), c[1]);
         }
         // The LOCAL minute is of day 0, but it is left out; its MOMENT is of day 1.
         TickKeeper leftOut = waiterFor(DAY - 30);

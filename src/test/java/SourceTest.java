@@ -107,7 +107,7 @@ public final class SourceTest {
         while (imports.find()) holds("4: " + imports.group(1), imports.group(1).equals("java.util.Arrays"));
         Matcher library = Pattern.compile("\\b(Math|Integer|Long|Arrays|System|String|Character|Objects)\\.(\\w+)").matcher(code);
         Set<String> listed = Set.of("Math.max", "Math.min", "Math.abs", "Math.floorDiv", "Math.floorMod", "Integer.bitCount",
-                "Long.bitCount", "Integer.MAX_VALUE", "Arrays.copyOf");
+                "Long.bitCount", "Arrays.copyOf");
         while (library.find()) holds("4: " + library.group(), listed.contains(library.group()));
         lengths(source.split("\n"));
     }
