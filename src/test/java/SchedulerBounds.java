@@ -726,6 +726,31 @@ final class SchedulerBounds extends Bounds {
         TickKeeper others = hourly(3);
         wakeAndFlow(others, 0);
         due("each job has its own latest", others.effects(0) + others.effects(1) + others.effects(2), 3);
+        effectsLeaveSchedulers();
+    }
+
+    /** DESKS bear the numbers of SCHEDULERS, but what comes to the one is nothing to the other. */
+    private void effectsLeaveSchedulers() {
+        for (int desk = 0; desk < 2; desk++) {
+            TickKeeper x = hourlyAt(2, 60);
+            x.pause(1 - desk, true);
+            x.wake(desk);
+            x.flow(8);
+            due("the effect waits alone", x.count(3), 1);
+            x.wake(desk);
+            registerIs(x, desk, desk, 6 + desk, 3 + desk, 0, 1, 6 + desk, 1, NONE);
+            x.twin(0);
+            due("an effect", x.deliver(0), EFFECT);
+            registerIs(x, desk, desk, 6 + desk, 3 + desk, 0, 1, 6 + desk, 1, NONE);
+            due("the run asks still", x.count(3), 3);
+            due("one more, which is refused", x.deliver(2), EFFECT);
+            registerIs(x, desk, desk, 6 + desk, 3 + desk, 0, 1, 6 + desk, 1, NONE);
+            due("taken once", x.effects(desk), 1);
+        }
+        TickKeeper down = twoEffects();
+        down.crash(0);
+        down.deliver(0);
+        due("a desk is up when the scheduler of its number is down", down.effects(0), 1);
     }
 
     private void room() {
